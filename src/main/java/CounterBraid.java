@@ -670,12 +670,13 @@ public final class CounterBraid {
 
         /** Narrows for some rounds, and returns how many of them change a bound. */
         int narrow(int rounds) {
-            int changing = 0;
-            // Behind a round that changes nothing no later one does.
-            while (changing < rounds && narrowOnce()) {
-                changing++;
+            for (int round = 1; round <= rounds; round++) {
+                // Behind a round that changes nothing no later one does.
+                if (!narrowOnce()) {
+                    return round - 1;
+                }
             }
-            return changing;
+            return rounds;
         }
 
         private boolean narrowOnce() {
@@ -706,8 +707,10 @@ public final class CounterBraid {
             long high = upper[thing];
             for (int i = 0; i < placeCounts[thing]; i++) {
                 int place = places[thing][i];
-                high = Math.min(high, greatest[place] - (lowerSums[place] - lower[thing]));
-                low = Math.max(low, least[place] - (upperSums[place] - upper[thing]));
+                long most = greatest[place] - (lowerSums[place] - lower[thing]);
+                long fewest = least[place] - (upperSums[place] - upper[thing]);
+                high = most < high ? most : high;
+                low = fewest > low ? fewest : low;
             }
             boolean changed = low != lower[thing] || high != upper[thing];
             lower[thing] = low;

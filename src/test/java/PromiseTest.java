@@ -1,3 +1,6 @@
+import java.util.HashSet;
+import java.util.Set;
+
 /** For each promise of the document: ordinary inputs, the edges that it names, and wrong inputs. */
 public final class PromiseTest {
     private static final int NONE = -1, BAD_INDEX = -2, BAD_VALUE = -3, BAD_STATE = -4, FULL = -5;
@@ -53,6 +56,7 @@ public final class PromiseTest {
         promise26LeastPlace();
         promise27Widest();
         promise28LeastSpace();
+        promise28LeastSpaceByParting();
     }
 
     private void spaceAndHistory() {
@@ -87,17 +91,19 @@ public final class PromiseTest {
     }
 
     /**
-     * Five flows with the places {1, 3}, {2, 5}, {0, 3}, {2, 3} and {0, 1}; rounds 1 to 4 of the first decoding and
+     * Five flows with the places {1}, {2, 5}, {0, 3}, {2, 3} and {0, 1}; rounds 1 to 4 of the first decoding and
      * 1 to 5 of the second one change bounds. The counters 0 to 5 but 4 are marked; their places above are {1, 3},
      * {2, 3}, {0, 1}, {0, 4} and {3}, where 36, 36, 24, 47 and 22 stand.
      */
     private static CounterBraid woven(int rounds) {
+        return woven(rounds, new int[] {11, 14, 19, 9, 18}, new int[] {23, 2, 18, 26, 26});
+    }
+
+    private static CounterBraid woven(int rounds, int[] keys, int[] counts) {
         CounterBraid x = new CounterBraid();
         x.setFirst(7, 1, 2);
         x.setSecond(5, 2);
         x.setRounds(rounds);
-        int[] keys = {11, 14, 19, 9, 18};
-        int[] counts = {23, 2, 18, 26, 26};
         for (int i = 0; i < keys.length; i++) {
             x.addFlow(keys[i]);
             x.count(0, i, counts[i]);
@@ -307,6 +313,8 @@ public final class PromiseTest {
         x.setSecond(16, 3);
         // 23 * 19, 37, 61 + 3, 11, 23 modulo 103: 28, 38, 87.
         due("placesAbove(23)", x.placesAbove(23), (1 << 12) + (1 << 6) + (1 << 7));
+        // 22, 48, 84.
+        due("placesAbove(1)", x.placesAbove(1), (1 << 6) + (1 << 0) + (1 << 4));
         due("placesAbove(24)", x.placesAbove(24), BAD_INDEX);
         x.setSecond(1, 3);
         due("placesAbove(23) of one", x.placesAbove(23), 1);
@@ -354,6 +362,10 @@ public final class PromiseTest {
         due("digest() behind errors", x.digest(), before);
         due("count(0, 1, 1)", x.count(0, 1, 1), 1);
         due("bound(0, 0, true)", x.bound(0, 0, true), 1000000000);
+        CounterBraid y = withThreeFlows();
+        fill(y, 998750);
+        due("count(0, 0, 10001)", y.count(0, 0, 10001), FULL);
+        due("count(0, 0, 10000)", y.count(0, 0, 10000), 1000000000);
     }
 
     private void promise12AddBraid() {
@@ -615,6 +627,11 @@ public final class PromiseTest {
             due("total(0, " + what + ")", x.total(0, what), totals[what]);
             due("total(1, " + what + ")", x.total(1, what), 0);
         }
+        x.addFlow(4);
+        due("a flow more", x.total(0, 2) > 175 ? 1 : 0, 1);
+        x.undo();
+        x.clear(0);
+        due("a flow less, and nothing counted", x.total(0, 2), 0);
         due("total(0, -1)", x.total(0, -1), BAD_VALUE);
         due("total(0, 4)", x.total(0, 4), BAD_VALUE);
         for (int braid : WRONG_BRAIDS) {
@@ -667,6 +684,20 @@ public final class PromiseTest {
         x.addFlow(3);
         x.count(1, 2, 9);
         due("of several the lowest one", x.widest(1), 0);
+        x.addFlow(5);
+        x.setRounds(0);
+        x.setRounds(20);
+        due("a flow more", x.widest(1), 0);
+        for (int i = 0; i < 3; i++) {
+            x.undo();
+        }
+        x.clear(1);
+        due("a flow less", x.widest(1), NONE);
+        x.count(1, 0, 1);
+        due("bounds 0 and 1", x.widest(1), 0);
+        // The bounds are 16 and 44, 5 and 49, ..
+        CounterBraid y = woven(2, new int[] {19, 11, 14, 9, 18}, new int[] {18, 23, 2, 26, 26});
+        due("the width counts, not the height", y.widest(0), 1);
         for (int braid : WRONG_BRAIDS) {
             due("widest(" + braid + ")", x.widest(braid), BAD_INDEX);
         }
@@ -695,22 +726,36 @@ public final class PromiseTest {
         for (int braid : WRONG_BRAIDS) {
             due("leastSpace(" + braid + ")", y.leastSpace(braid), BAD_INDEX);
         }
-        CounterBraid z = new CounterBraid();
-        z.setFirst(2, 8, 1);
-        z.addFlow(0);
-        z.addFlow(8);
-        z.count(0, 0, 1);
-        z.count(0, 1, 1);
-        // The values are 5 and 333: with one function, 3 is the least M that parts them.
-        due("less than it would be with M as it is", z.leastSpace(0), leastParting(5, 333));
     }
 
-    private static int leastParting(int a, int b) {
-        int m = 2;
-        while (a % m == b % m) {
-            m++;
+    /** With one function and 8 bits all flows are certain just where their values have places of their own. */
+    private void promise28LeastSpaceByParting() {
+        promise = "promise 28, by parting";
+        int[][] rows = {{0, 8}, {0, 1}, {319, 624, 687, 449, 644, 586}, {319, 624, 687, 449, 644, 586, 3}};
+        int[] least = {3, 2, 24, NONE};
+        for (int i = 0; i < rows.length; i++) {
+            CounterBraid x = new CounterBraid();
+            x.setFirst(2, 8, 1);
+            for (int flow = 0; flow < rows[i].length; flow++) {
+                x.addFlow(rows[i][flow]);
+                x.count(1, flow, 1 + flow);
+            }
+            due("the row " + i, leastParting(rows[i]), least[i]);
+            due("leastSpace(1) of the row " + i, x.leastSpace(1), least[i]);
         }
-        return m;
+    }
+
+    private static int leastParting(int[] keys) {
+        for (int m = 2; m <= 24; m++) {
+            Set<Integer> places = new HashSet<>();
+            for (int key : keys) {
+                places.add((key * 41 + 5) % 1009 % m);
+            }
+            if (places.size() == keys.length) {
+                return m;
+            }
+        }
+        return NONE;
     }
 
     private void promise29Bits() {
@@ -776,18 +821,18 @@ public final class PromiseTest {
 
     private void promise31UndoOfEachRecordedCall() {
         promise = "promise 31, each call";
-        CounterBraid x = woven(20);
-        x.count(1, 3, 1000);
-        typeAll(x, "5+100");
-        long before = x.digest();
         for (int call = 0; call < 8; call++) {
+            CounterBraid x = woven(20);
+            x.count(1, 3, 1000);
+            typeAll(x, "5+100");
+            long before = x.digest();
             long answer = recorded(x, call);
             due("call " + call + " has no error", answer < 0 ? 1 : 0, 0);
+            due("call " + call + " changes the state", x.digest() == before ? 1 : 0, 0);
             due("undo() of call " + call, x.undo(), 4);
             due("digest()", x.digest(), before);
-            x.setRounds(20);
+            due("the text stays", x.clearText(), 5);
         }
-        due("the text stays", x.clearText(), 5);
     }
 
     private static long recorded(CounterBraid x, int call) {
@@ -890,12 +935,15 @@ public final class PromiseTest {
         String sixteen = "1;2;3;4;5;6;7;8;9;10;11;12;13;14;15;16";
         due("16 keys", withText(sixteen).textFault(), NONE);
         due("a 17th one", withText(sixteen + "; 17").textFault(), sixteen.length() + 2);
-        due("a known one", withText(sixteen + ";03+7").textFault(), NONE);
+        for (String known : new String[] {"1", "03+7", "0016"}) {
+            due("a known one, " + known, withText(sixteen + ";" + known).textFault(), NONE);
+        }
         CounterBraid x = withText("300;8;5;5;6");
         for (int key = 0; key < 15; key++) {
             x.addFlow(100 + key);
         }
         due("one flow is left", x.textFault(), 4);
+        due("and once more", x.textFault(), 4);
         x.addFlow(300);
         due("none is left, but the first one is known", x.textFault(), 4);
         x.clearText();
@@ -933,6 +981,9 @@ public final class PromiseTest {
         due("load()", z.load(), 3);
         due("key(0)", z.key(0), 30);
         due("key(2)", z.key(2), 10);
+        CounterBraid longest = withText("1;".repeat(49) + "1 ");
+        due("load() of 50 items", longest.load(), 1);
+        due("truth(0, 0)", longest.truth(0, 0), 50);
     }
 
     private void promise35LoadFull() {
@@ -944,7 +995,16 @@ public final class PromiseTest {
         due("load() to 1000 million", x.load(), 3);
         due("truth(0, 0)", x.truth(0, 0), 1000000000);
         due("load() again", x.load(), FULL);
+        x.clearText();
+        typeAll(x, "7");
+        due("one item alone", x.load(), FULL);
         x.undo();
+        x.clearText();
+        typeAll(x, "7+9998;8+9999;300+9999");
+        due("load() of others that count more", x.load(), 3);
+        x.undo();
+        x.clearText();
+        typeAll(x, "7+9999;8+9999;7");
         typeAll(x, ";9+5;7");
         long before = x.digest();
         due("items that fit one by one, not all together", x.load(), FULL);
