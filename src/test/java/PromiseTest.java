@@ -81,61 +81,6 @@ public final class PromiseTest {
         check.due(promise + ": " + call, got, want);
     }
 
-    /** Flows 7, 8 and 300 with the places {0, 4}, {1, 9} and {1, 5, 8}. */
-    private static CounterBraid withThreeFlows() {
-        CounterBraid x = new CounterBraid();
-        x.addFlow(7);
-        x.addFlow(8);
-        x.addFlow(300);
-        return x;
-    }
-
-    /**
-     * Five flows with the places {1}, {2, 5}, {0, 3}, {2, 3} and {0, 1}; rounds 1 to 4 of the first decoding and
-     * 1 to 5 of the second one change bounds. The counters 0 to 5 but 4 are marked; their places above are {1, 3},
-     * {2, 3}, {0, 1}, {0, 4} and {3}, where 36, 36, 24, 47 and 22 stand.
-     */
-    private static CounterBraid woven(int rounds) {
-        return woven(rounds, new int[] {11, 14, 19, 9, 18}, new int[] {23, 2, 18, 26, 26});
-    }
-
-    private static CounterBraid woven(int rounds, int[] keys, int[] counts) {
-        CounterBraid x = new CounterBraid();
-        x.setFirst(7, 1, 2);
-        x.setSecond(5, 2);
-        x.setRounds(rounds);
-        for (int i = 0; i < keys.length; i++) {
-            x.addFlow(keys[i]);
-            x.count(0, i, counts[i]);
-        }
-        return x;
-    }
-
-    private static CounterBraid withText(String text) {
-        CounterBraid x = new CounterBraid();
-        typeAll(x, text);
-        return x;
-    }
-
-    private static void typeAll(CounterBraid x, String text) {
-        for (int i = 0; i < text.length(); i++) {
-            x.type(text.charAt(i));
-        }
-    }
-
-    /** Lets the flow 0 count 124 million and the last number in braid 0, and doubles it thrice; braid 1 has half of it. */
-    private static void fill(CounterBraid x, int last) {
-        for (int i = 0; i < 124; i++) {
-            x.count(0, 0, 1000000);
-        }
-        x.count(0, 0, last);
-        for (int i = 0; i < 3; i++) {
-            x.clear(1);
-            x.addBraid(0, 1);
-            x.addBraid(1, 0);
-        }
-    }
-
     private void promise1NewObject() {
         promise = "promise 1";
         CounterBraid x = new CounterBraid();
@@ -156,7 +101,7 @@ public final class PromiseTest {
 
     private void promise2SetFirst() {
         promise = "promise 2";
-        CounterBraid x = withThreeFlows();
+        CounterBraid x = Made.threeFlows();
         x.count(0, 0, 100);
         x.count(1, 1, 100);
         due("setFirst(5, 2, 4)", x.setFirst(5, 2, 4), 12);
@@ -193,7 +138,7 @@ public final class PromiseTest {
 
     private void promise3SetSecond() {
         promise = "promise 3";
-        CounterBraid x = withThreeFlows();
+        CounterBraid x = Made.threeFlows();
         x.count(0, 0, 100);
         x.count(1, 1, 100);
         due("setSecond(16, 3)", x.setSecond(16, 3), 6);
@@ -216,7 +161,7 @@ public final class PromiseTest {
 
     private void promise4SetRounds() {
         promise = "promise 4";
-        CounterBraid x = withThreeFlows();
+        CounterBraid x = Made.threeFlows();
         x.count(0, 0, 100);
         due("setRounds(60)", x.setRounds(60), 20);
         due("setRounds(0)", x.setRounds(0), 60);
@@ -264,7 +209,7 @@ public final class PromiseTest {
 
     private void promise7Key() {
         promise = "promise 7";
-        CounterBraid x = withThreeFlows();
+        CounterBraid x = Made.threeFlows();
         due("key(0)", x.key(0), 7);
         due("key(2)", x.key(2), 300);
         due("key(3)", x.key(3), BAD_INDEX);
@@ -275,7 +220,7 @@ public final class PromiseTest {
 
     private void promise8FlowOf() {
         promise = "promise 8";
-        CounterBraid x = withThreeFlows();
+        CounterBraid x = Made.threeFlows();
         due("flowOf(7)", x.flowOf(7), 0);
         due("flowOf(300)", x.flowOf(300), 2);
         due("flowOf(0)", x.flowOf(0), NONE);
@@ -286,7 +231,7 @@ public final class PromiseTest {
 
     private void promise9Places() {
         promise = "promise 9";
-        CounterBraid x = withThreeFlows();
+        CounterBraid x = Made.threeFlows();
         due("places(0), two functions in one place", x.places(0), 1 + 16);
         due("places(2)", x.places(2), 2 + 32 + 256);
         due("places(3)", x.places(3), BAD_INDEX);
@@ -322,7 +267,7 @@ public final class PromiseTest {
 
     private void promise11Count() {
         promise = "promise 11";
-        CounterBraid x = withThreeFlows();
+        CounterBraid x = Made.threeFlows();
         due("count(0, 0, 7)", x.count(0, 0, 7), 7);
         due("isMarked(0, 0) below 2^D", x.isMarked(0, 0), 0);
         due("count(0, 0, 1)", x.count(0, 0, 1), 8);
@@ -352,8 +297,8 @@ public final class PromiseTest {
 
     private void promise11CountFull() {
         promise = "promise 11, full";
-        CounterBraid x = withThreeFlows();
-        fill(x, 1000000);
+        CounterBraid x = Made.threeFlows();
+        Made.fill(x, 1000000);
         due("truth(0, 0)", x.truth(0, 0), 1000000000);
         due("truth(1, 0)", x.truth(1, 0), 500000000);
         long before = x.digest();
@@ -362,15 +307,15 @@ public final class PromiseTest {
         due("digest() behind errors", x.digest(), before);
         due("count(0, 1, 1)", x.count(0, 1, 1), 1);
         due("bound(0, 0, true)", x.bound(0, 0, true), 1000000000);
-        CounterBraid y = withThreeFlows();
-        fill(y, 998750);
+        CounterBraid y = Made.threeFlows();
+        Made.fill(y, 998750);
         due("count(0, 0, 10001)", y.count(0, 0, 10001), FULL);
         due("count(0, 0, 10000)", y.count(0, 0, 10000), 1000000000);
     }
 
     private void promise12AddBraid() {
         promise = "promise 12";
-        CounterBraid x = withThreeFlows();
+        CounterBraid x = Made.threeFlows();
         x.count(0, 0, 5);
         x.count(1, 0, 5);
         x.count(1, 2, 17);
@@ -383,7 +328,7 @@ public final class PromiseTest {
         due("isMarked(0, 9)", x.isMarked(0, 9), 0);
         due("truth(0, 0)", x.truth(0, 0), 10);
         due("truth(0, 2)", x.truth(0, 2), 17);
-        CounterBraid y = withThreeFlows();
+        CounterBraid y = Made.threeFlows();
         y.count(0, 0, 10);
         y.count(0, 2, 17);
         for (int counter = 0; counter < 6; counter++) {
@@ -406,8 +351,8 @@ public final class PromiseTest {
 
     private void promise12AddBraidFull() {
         promise = "promise 12, full";
-        CounterBraid x = withThreeFlows();
-        fill(x, 1000000);
+        CounterBraid x = Made.threeFlows();
+        Made.fill(x, 1000000);
         long before = x.digest();
         due("addBraid(1, 0)", x.addBraid(1, 0), FULL);
         due("addBraid(0, 0)", x.addBraid(0, 0), BAD_VALUE);
@@ -419,7 +364,7 @@ public final class PromiseTest {
 
     private void promise13Clear() {
         promise = "promise 13";
-        CounterBraid x = withThreeFlows();
+        CounterBraid x = Made.threeFlows();
         x.count(0, 0, 10);
         x.count(0, 2, 20);
         x.count(1, 1, 40);
@@ -440,7 +385,7 @@ public final class PromiseTest {
 
     private void promise14Truth() {
         promise = "promise 14";
-        CounterBraid x = withThreeFlows();
+        CounterBraid x = Made.threeFlows();
         x.count(0, 1, 3);
         x.count(1, 1, 4);
         x.count(1, 1, 5);
@@ -456,7 +401,7 @@ public final class PromiseTest {
 
     private void promise15Rest() {
         promise = "promise 15";
-        CounterBraid x = withThreeFlows();
+        CounterBraid x = Made.threeFlows();
         x.count(1, 1, 7);
         x.count(1, 2, 6);
         due("rest(1, 1)", x.rest(1, 1), 5);
@@ -477,7 +422,7 @@ public final class PromiseTest {
 
     private void promise16IsMarked() {
         promise = "promise 16";
-        CounterBraid x = withThreeFlows();
+        CounterBraid x = Made.threeFlows();
         x.count(1, 1, 7);
         x.count(1, 2, 1);
         due("isMarked(1, 1)", x.isMarked(1, 1), 1);
@@ -496,7 +441,7 @@ public final class PromiseTest {
 
     private void promise17Above() {
         promise = "promise 17";
-        CounterBraid x = withThreeFlows();
+        CounterBraid x = Made.threeFlows();
         x.count(1, 0, 80);
         due("above(1, 0)", x.above(1, 0), 0);
         due("above(1, 3)", x.above(1, 3), 10);
@@ -517,13 +462,13 @@ public final class PromiseTest {
         long[][] upper = {{36, 24, 36, 22, 0, 47, 0}, {35, 24, 35, 22, 0, 45, 0}, {22, 24, 14, 22, 0, 22, 0},
             {22, 24, 14, 22, 0, 22, 0}, {22, 24, 14, 22, 0, 1, 0}, {22, 24, 14, 22, 0, 1, 0}};
         for (int i = 0; i < rounds.length; i++) {
-            CounterBraid x = woven(rounds[i]);
+            CounterBraid x = Made.woven(rounds[i]);
             for (int c = 0; c < 7; c++) {
                 due(rounds[i] + " rounds, overflow(0, " + c + ", false)", x.overflow(0, c, false), lower[i][c]);
                 due(rounds[i] + " rounds, overflow(0, " + c + ", true)", x.overflow(0, c, true), upper[i][c]);
             }
         }
-        CounterBraid x = woven(20);
+        CounterBraid x = Made.woven(20);
         due("overflow(1, 0, true)", x.overflow(1, 0, true), 0);
         due("overflow(0, 7, true)", x.overflow(0, 7, true), BAD_INDEX);
         due("overflow(0, -1, false)", x.overflow(0, -1, false), BAD_INDEX);
@@ -538,13 +483,13 @@ public final class PromiseTest {
         long[][] lower = {{0, 0, 0, 0, 0}, {5, 2, 16, 0, 0}, {21, 2, 18, 26, 26}, {23, 2, 18, 26, 26}};
         long[][] upper = {{49, 72, 44, 44, 49}, {49, 28, 44, 26, 28}, {23, 2, 18, 26, 26}, {23, 2, 18, 26, 26}};
         for (int i = 0; i < rounds.length; i++) {
-            CounterBraid x = woven(rounds[i]);
+            CounterBraid x = Made.woven(rounds[i]);
             for (int f = 0; f < 5; f++) {
                 due(rounds[i] + " rounds, bound(0, " + f + ", false)", x.bound(0, f, false), lower[i][f]);
                 due(rounds[i] + " rounds, bound(0, " + f + ", true)", x.bound(0, f, true), upper[i][f]);
             }
         }
-        CounterBraid x = woven(20);
+        CounterBraid x = Made.woven(20);
         due("bound(1, 0, true)", x.bound(1, 0, true), 0);
         due("bound(0, 5, true)", x.bound(0, 5, true), BAD_INDEX);
         due("bound(0, -1, false)", x.bound(0, -1, false), BAD_INDEX);
@@ -555,7 +500,7 @@ public final class PromiseTest {
 
     private void promise20BoundAfter() {
         promise = "promise 20";
-        CounterBraid x = woven(20);
+        CounterBraid x = Made.woven(20);
         long[] lower = {0, 5, 5, 21, 21, 23, 23};
         long[] upper = {49, 49, 49, 49, 23, 23, 23};
         for (int rounds = 0; rounds < lower.length; rounds++) {
@@ -571,7 +516,7 @@ public final class PromiseTest {
             due("boundAfter(" + braid + ", 0, true, 61)", x.boundAfter(braid, 0, true, 61), BAD_INDEX);
         }
         // More rounds of the second decoding than R are done as they are asked for; the first one is done for R.
-        CounterBraid y = woven(2);
+        CounterBraid y = Made.woven(2);
         due("R is 2, boundAfter(0, 0, false, 3)", y.boundAfter(0, 0, false, 3), 21);
         due("R is 2, boundAfter(0, 0, false, 60)", y.boundAfter(0, 0, false, 60), 23);
         due("R is 2, boundAfter(0, 0, true, 60)", y.boundAfter(0, 0, true, 60), 49);
@@ -580,23 +525,23 @@ public final class PromiseTest {
     private void promise21Certain() {
         promise = "promise 21";
         due("no flows", new CounterBraid().certain(0), 0);
-        due("3 rounds", woven(3).certain(0), 0);
-        due("4 rounds", woven(4).certain(0), 2 + 4 + 8 + 16);
-        due("5 rounds", woven(5).certain(0), 31);
-        due("an empty braid without rounds", woven(0).certain(1), 31);
+        due("3 rounds", Made.woven(3).certain(0), 0);
+        due("4 rounds", Made.woven(4).certain(0), 2 + 4 + 8 + 16);
+        due("5 rounds", Made.woven(5).certain(0), 31);
+        due("an empty braid without rounds", Made.woven(0).certain(1), 31);
         for (int braid : WRONG_BRAIDS) {
-            due("certain(" + braid + ")", woven(5).certain(braid), BAD_INDEX);
+            due("certain(" + braid + ")", Made.woven(5).certain(braid), BAD_INDEX);
         }
     }
 
     private void promise22CertainOverflows() {
         promise = "promise 22";
-        due("no rounds", woven(0).certainOverflows(0), 16 + 64);
-        due("one round", woven(1).certainOverflows(0), 2 + 8 + 16 + 64);
-        due("2 rounds", woven(2).certainOverflows(0), 2 + 4 + 8 + 16 + 64);
-        due("3 rounds", woven(3).certainOverflows(0), 127 - 32);
-        due("4 rounds", woven(4).certainOverflows(0), 127);
-        due("an empty braid", woven(0).certainOverflows(1), 127);
+        due("no rounds", Made.woven(0).certainOverflows(0), 16 + 64);
+        due("one round", Made.woven(1).certainOverflows(0), 2 + 8 + 16 + 64);
+        due("2 rounds", Made.woven(2).certainOverflows(0), 2 + 4 + 8 + 16 + 64);
+        due("3 rounds", Made.woven(3).certainOverflows(0), 127 - 32);
+        due("4 rounds", Made.woven(4).certainOverflows(0), 127);
+        due("an empty braid", Made.woven(0).certainOverflows(1), 127);
         CounterBraid x = new CounterBraid();
         x.setFirst(24, 1, 1);
         due("24 counters", x.certainOverflows(0), (1 << 24) - 1);
@@ -610,18 +555,18 @@ public final class PromiseTest {
         int[] rounds = {0, 1, 2, 3, 4, 5, 6, 60};
         int[] last = {0, 1, 2, 3, 4, 5, 5, 5};
         for (int i = 0; i < rounds.length; i++) {
-            due(rounds[i] + " rounds", woven(rounds[i]).lastRound(0), last[i]);
+            due(rounds[i] + " rounds", Made.woven(rounds[i]).lastRound(0), last[i]);
         }
-        due("an empty braid", woven(20).lastRound(1), 0);
+        due("an empty braid", Made.woven(20).lastRound(1), 0);
         due("no flows", new CounterBraid().lastRound(0), 0);
         for (int braid : WRONG_BRAIDS) {
-            due("lastRound(" + braid + ")", woven(20).lastRound(braid), BAD_INDEX);
+            due("lastRound(" + braid + ")", Made.woven(20).lastRound(braid), BAD_INDEX);
         }
     }
 
     private void promise24Total() {
         promise = "promise 24";
-        CounterBraid x = woven(2);
+        CounterBraid x = Made.woven(2);
         long[] totals = {95, 23, 175, 165};
         for (int what = 0; what < totals.length; what++) {
             due("total(0, " + what + ")", x.total(0, what), totals[what]);
@@ -641,12 +586,12 @@ public final class PromiseTest {
 
     private void promise25Estimate() {
         promise = "promise 25";
-        CounterBraid x = woven(2);
+        CounterBraid x = Made.woven(2);
         long[] middles = {27, 15, 30, 13, 14};
         for (int flow = 0; flow < middles.length; flow++) {
             due("estimate(0, " + flow + ")", x.estimate(0, flow), middles[flow]);
         }
-        due("(0 + 49) / 2, rounded down", woven(0).estimate(0, 0), 24);
+        due("(0 + 49) / 2, rounded down", Made.woven(0).estimate(0, 0), 24);
         due("estimate(1, 0)", x.estimate(1, 0), 0);
         due("estimate(0, 5)", x.estimate(0, 5), BAD_INDEX);
         due("estimate(0, -1)", x.estimate(0, -1), BAD_INDEX);
@@ -657,12 +602,12 @@ public final class PromiseTest {
 
     private void promise26LeastPlace() {
         promise = "promise 26";
-        CounterBraid x = woven(20);
+        CounterBraid x = Made.woven(20);
         long[] least = {49, 2, 44, 28, 44};
         for (int flow = 0; flow < least.length; flow++) {
             due("leastPlace(0, " + flow + ")", x.leastPlace(0, flow), least[flow]);
         }
-        due("no rounds of the first decoding", woven(0).leastPlace(0, 1), 72);
+        due("no rounds of the first decoding", Made.woven(0).leastPlace(0, 1), 72);
         due("leastPlace(1, 0)", x.leastPlace(1, 0), 0);
         due("leastPlace(0, 5)", x.leastPlace(0, 5), BAD_INDEX);
         due("leastPlace(0, -1)", x.leastPlace(0, -1), BAD_INDEX);
@@ -673,9 +618,9 @@ public final class PromiseTest {
 
     private void promise27Widest() {
         promise = "promise 27";
-        due("no rounds", woven(0).widest(0), 1);
-        due("2 rounds", woven(2).widest(0), 0);
-        due("all certain", woven(20).widest(0), NONE);
+        due("no rounds", Made.woven(0).widest(0), 1);
+        due("2 rounds", Made.woven(2).widest(0), 0);
+        due("all certain", Made.woven(20).widest(0), NONE);
         due("no flows", new CounterBraid().widest(0), NONE);
         CounterBraid x = new CounterBraid();
         x.setFirst(2, 8, 4);
@@ -696,7 +641,7 @@ public final class PromiseTest {
         x.count(1, 0, 1);
         due("bounds 0 and 1", x.widest(1), 0);
         // The bounds are 16 and 44, 5 and 49, ..
-        CounterBraid y = woven(2, new int[] {19, 11, 14, 9, 18}, new int[] {18, 23, 2, 26, 26});
+        CounterBraid y = Made.woven(2, new int[] {19, 11, 14, 9, 18}, new int[] {18, 23, 2, 26, 26});
         due("the width counts, not the height", y.widest(0), 1);
         for (int braid : WRONG_BRAIDS) {
             due("widest(" + braid + ")", x.widest(braid), BAD_INDEX);
@@ -705,7 +650,7 @@ public final class PromiseTest {
 
     private void promise28LeastSpace() {
         promise = "promise 28";
-        CounterBraid x = withThreeFlows();
+        CounterBraid x = Made.threeFlows();
         due("nothing was counted", x.leastSpace(0), 2);
         x.count(0, 0, 5);
         x.count(0, 1, 20);
@@ -713,13 +658,13 @@ public final class PromiseTest {
         due("leastSpace(0)", x.leastSpace(0), 6);
         due("leastSpace(1)", x.leastSpace(1), 2);
         due("no flows", new CounterBraid().leastSpace(1), 2);
-        CounterBraid y = woven(5);
+        CounterBraid y = Made.woven(5);
         long before = y.digest();
         due("5 rounds", y.leastSpace(0), 7);
         due("digest() behind it", y.digest(), before);
         due("form(0) behind it", y.form(0), 7);
         due("undo() behind it", y.undo(), 4);
-        due("4 rounds", woven(4).leastSpace(0), NONE);
+        due("4 rounds", Made.woven(4).leastSpace(0), NONE);
         y.addBraid(0, 1);
         y.clear(0);
         due("the other braid", y.leastSpace(0), 2);
@@ -786,7 +731,7 @@ public final class PromiseTest {
                 due("form " + m + ", " + above, x.bitsForEach(), Float.floatToIntBits(each));
             }
         }
-        CounterBraid y = withThreeFlows();
+        CounterBraid y = Made.threeFlows();
         due("240 / 3", y.bitsForEach(), 0x42A00000);
         y.setSecond(1, 1);
         y.setFirst(2, 1, 1);
@@ -822,9 +767,9 @@ public final class PromiseTest {
     private void promise31UndoOfEachRecordedCall() {
         promise = "promise 31, each call";
         for (int call = 0; call < 8; call++) {
-            CounterBraid x = woven(20);
+            CounterBraid x = Made.woven(20);
             x.count(1, 3, 1000);
-            typeAll(x, "5+100");
+            Made.typeAll(x, "5+100");
             long before = x.digest();
             long answer = recorded(x, call);
             due("call " + call + " has no error", answer < 0 ? 1 : 0, 0);
@@ -889,7 +834,7 @@ public final class PromiseTest {
 
     private void promise33ClearText() {
         promise = "promise 33";
-        CounterBraid x = withText("1;2");
+        CounterBraid x = Made.withText("1;2");
         due("clearText()", x.clearText(), 3);
         due("clearText() again", x.clearText(), 0);
         due("textFault()", x.textFault(), 0);
@@ -902,7 +847,7 @@ public final class PromiseTest {
         String[] right = {"0", "999", "05", "0005", "0999", "0000", "1+1", "1+9999", "1+0001", " 1 ", "   12 + 3  ;4 ; 5+6 ",
             "1;1;1+2;1", "1;2;3;4;5;6;7;8;9;10;11;12;13;14;15;16;16;15+3"};
         for (String text : right) {
-            due("\"" + text + "\"", withText(text).textFault(), NONE);
+            due("\"" + text + "\"", Made.withText(text).textFault(), NONE);
         }
         dueFaults(new String[] {"", " ", "    ", "1;", "1; ", "1+", "1 + ", "1+2;"});
         Object[][] wrong = {{"1000", 0}, {" 1000 ", 1}, {"9999+1", 0}, {"00001", 0}, {"00000", 0}, {"12345678901234", 0},
@@ -911,14 +856,14 @@ public final class PromiseTest {
             {"1+x", 2}, {"1+2x", 3}, {"1;x", 2}, {"-1", 0}, {"1+-1", 2}, {"1,2", 1}, {"1\t", 1}, {"\n1", 0}, {"1;2;1000", 4},
             {"1;2+0;1000", 4}, {"1/", 1}, {"1:", 1}, {"/", 0}, {":", 0}, {"1\0", 1}, {"\u00ff", 0}, {"5 +3;5 + 3 4", 11}};
         for (Object[] row : wrong) {
-            due("\"" + row[0] + "\"", withText((String) row[0]).textFault(), (Integer) row[1]);
+            due("\"" + row[0] + "\"", Made.withText((String) row[0]).textFault(), (Integer) row[1]);
         }
         String longest = "1;".repeat(49) + "1 ";
-        due("100 bytes", withText(longest).textFault(), NONE);
-        due("100 bytes that end too early", withText("1;".repeat(50)).textFault(), 100);
-        due("100 digits", withText("1".repeat(100)).textFault(), 0);
-        due("100 blanks", withText(" ".repeat(100)).textFault(), 100);
-        CounterBraid x = withText("1;2+3");
+        due("100 bytes", Made.withText(longest).textFault(), NONE);
+        due("100 bytes that end too early", Made.withText("1;".repeat(50)).textFault(), 100);
+        due("100 digits", Made.withText("1".repeat(100)).textFault(), 0);
+        due("100 blanks", Made.withText(" ".repeat(100)).textFault(), 100);
+        CounterBraid x = Made.withText("1;2+3");
         long before = x.digest();
         x.textFault();
         due("nothing is changed", x.digest(), before);
@@ -926,19 +871,19 @@ public final class PromiseTest {
 
     private void dueFaults(String[] tooShort) {
         for (String text : tooShort) {
-            due("\"" + text + "\"", withText(text).textFault(), text.length());
+            due("\"" + text + "\"", Made.withText(text).textFault(), text.length());
         }
     }
 
     private void promise34SeventeenthFlow() {
         promise = "promise 34, a 17th flow";
         String sixteen = "1;2;3;4;5;6;7;8;9;10;11;12;13;14;15;16";
-        due("16 keys", withText(sixteen).textFault(), NONE);
-        due("a 17th one", withText(sixteen + "; 17").textFault(), sixteen.length() + 2);
+        due("16 keys", Made.withText(sixteen).textFault(), NONE);
+        due("a 17th one", Made.withText(sixteen + "; 17").textFault(), sixteen.length() + 2);
         for (String known : new String[] {"1", "03+7", "0016"}) {
-            due("a known one, " + known, withText(sixteen + ";" + known).textFault(), NONE);
+            due("a known one, " + known, Made.withText(sixteen + ";" + known).textFault(), NONE);
         }
-        CounterBraid x = withText("300;8;5;5;6");
+        CounterBraid x = Made.withText("300;8;5;5;6");
         for (int key = 0; key < 15; key++) {
             x.addFlow(100 + key);
         }
@@ -947,7 +892,7 @@ public final class PromiseTest {
         x.addFlow(300);
         due("none is left, but the first one is known", x.textFault(), 4);
         x.clearText();
-        typeAll(x, "100;114;300+5;1");
+        Made.typeAll(x, "100;114;300+5;1");
         due("the last one is new", x.textFault(), 14);
         due("load()", x.load(), BAD_STATE);
         due("form(6)", x.form(6), 16);
@@ -955,8 +900,8 @@ public final class PromiseTest {
 
     private void promise35Load() {
         promise = "promise 35";
-        CounterBraid x = withThreeFlows();
-        typeAll(x, " 8 + 20;007+5; 42; 300 +100 ;42+9;7");
+        CounterBraid x = Made.threeFlows();
+        Made.typeAll(x, " 8 + 20;007+5; 42; 300 +100 ;42+9;7");
         due("load()", x.load(), 4);
         due("flowOf(42)", x.flowOf(42), 3);
         long[] truths = {6, 20, 100, 10};
@@ -972,54 +917,54 @@ public final class PromiseTest {
         due("undo() of one call", x.undo(), 3);
         due("form(6)", x.form(6), 3);
         due("truth(0, 2)", x.truth(0, 2), 0);
-        CounterBraid y = withText("1;2;");
+        CounterBraid y = Made.withText("1;2;");
         due("a text with a fault", y.load(), BAD_STATE);
         due("an empty text", new CounterBraid().load(), BAD_STATE);
         due("form(6)", y.form(6), 0);
         due("undo()", y.undo(), BAD_STATE);
-        CounterBraid z = withText("30;20;10");
+        CounterBraid z = Made.withText("30;20;10");
         due("load()", z.load(), 3);
         due("key(0)", z.key(0), 30);
         due("key(2)", z.key(2), 10);
-        CounterBraid longest = withText("1;".repeat(49) + "1 ");
+        CounterBraid longest = Made.withText("1;".repeat(49) + "1 ");
         due("load() of 50 items", longest.load(), 1);
         due("truth(0, 0)", longest.truth(0, 0), 50);
     }
 
     private void promise35LoadFull() {
         promise = "promise 35, full";
-        CounterBraid x = withThreeFlows();
-        fill(x, 998750);
+        CounterBraid x = Made.threeFlows();
+        Made.fill(x, 998750);
         due("truth(0, 0)", x.truth(0, 0), 999990000);
-        typeAll(x, "7+9999;8+9999;7");
+        Made.typeAll(x, "7+9999;8+9999;7");
         due("load() to 1000 million", x.load(), 3);
         due("truth(0, 0)", x.truth(0, 0), 1000000000);
         due("load() again", x.load(), FULL);
         x.clearText();
-        typeAll(x, "7");
+        Made.typeAll(x, "7");
         due("one item alone", x.load(), FULL);
         x.undo();
         x.clearText();
-        typeAll(x, "7+9998;8+9999;300+9999");
+        Made.typeAll(x, "7+9998;8+9999;300+9999");
         due("load() of others that count more", x.load(), 3);
         x.undo();
         x.clearText();
-        typeAll(x, "7+9999;8+9999;7");
-        typeAll(x, ";9+5;7");
+        Made.typeAll(x, "7+9999;8+9999;7");
+        Made.typeAll(x, ";9+5;7");
         long before = x.digest();
         due("items that fit one by one, not all together", x.load(), FULL);
         due("digest() behind it", x.digest(), before);
         x.clearText();
-        typeAll(x, "7+9999;7+9999;");
+        Made.typeAll(x, "7+9999;7+9999;");
         due("a fault comes ahead of it", x.load(), BAD_STATE);
         x.clearText();
-        typeAll(x, "8+9999;300");
+        Made.typeAll(x, "8+9999;300");
         due("load() of others", x.load(), 3);
         x.clear(1);
         x.addBraid(0, 1);
         x.clear(0);
         x.clearText();
-        typeAll(x, "7+9999;7+9999");
+        Made.typeAll(x, "7+9999;7+9999");
         due("load() where braid 1 is full", x.load(), 3);
     }
 
