@@ -7,7 +7,7 @@ import java.util.LinkedHashMap;
 import java.util.Map;
 import java.util.Set;
 
-/** The parts of DOC.md, from "Description" to "Promise 36", and which of their sentences have been quoted. */
+/** The parts of DOC.md, from "What it is" to "Promise 36", and which of their sentences have been quoted. */
 final class Document {
     private static final Path FILE = Path.of("../shared/DOC.md");
     private static final Set<String> PLAIN_HEADINGS = Set.of("Flows, places", "History, errors");
@@ -18,16 +18,21 @@ final class Document {
     Document() {
         try {
             String text = Files.readString(FILE);
-            read(text.substring(text.indexOf("\n## Description"), text.indexOf("\n## Not promised")));
+            read(text.substring(text.indexOf("\n## What it is"), text.indexOf("\n## Not promised")));
         } catch (IOException e) {
             throw new UncheckedIOException(e);
         }
     }
 
-    /** Signatures and the headings within a list of methods ("---- text") are no sentences. */
+    /** Java, signatures and the headings within a list of methods ("---- text") are no sentences. */
     private void read(String text) {
         String name = "";
+        boolean isJava = false;
         for (String line : text.split("\n")) {
+            isJava ^= line.startsWith("```");
+            if (isJava) {
+                continue;
+            }
             if (line.startsWith("#") || PLAIN_HEADINGS.contains(line)) {
                 name = line.replaceFirst("^#+ ", "").replaceFirst("^(Promise \\d+): .*", "$1");
                 parts.put(name, "");

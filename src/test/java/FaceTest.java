@@ -35,6 +35,7 @@ public final class FaceTest {
                     Modifier.isPublic(constructor.getModifiers()) ? constructor.getParameterCount() : -1, 0);
         }
         check.due("open fields", countOpenFields(), constants.length);
+        dueModifiers(check);
         check.end("FaceTest");
     }
 
@@ -67,6 +68,25 @@ public final class FaceTest {
             }
         }
         return face;
+    }
+
+    /** What isn't private is public; constants are static, final and int; the classes inside are static, and not public. */
+    private static void dueModifiers(Check check) {
+        for (Method method : CounterBraid.class.getDeclaredMethods()) {
+            boolean isOpen = !Modifier.isPrivate(method.getModifiers());
+            check.due("modifiers of " + method.getName(), isOpen ? method.getModifiers() : Modifier.PUBLIC, Modifier.PUBLIC);
+        }
+        for (Field field : CounterBraid.class.getDeclaredFields()) {
+            boolean isOpen = !Modifier.isPrivate(field.getModifiers());
+            int due = Modifier.PUBLIC | Modifier.STATIC | Modifier.FINAL;
+            check.due("modifiers of " + field.getName(), isOpen ? field.getModifiers() : due, due);
+            check.due("type of " + field.getName(), isOpen && field.getType() != int.class ? 1 : 0, 0);
+        }
+        for (Class<?> inside : CounterBraid.class.getDeclaredClasses()) {
+            int forbidden = inside.getModifiers() & (Modifier.PUBLIC | Modifier.PROTECTED);
+            check.due("openness of " + inside.getName(), forbidden, 0);
+            check.due("static " + inside.getName(), Modifier.isStatic(inside.getModifiers()) ? 1 : 0, 1);
+        }
     }
 
     private static int countOpenFields() {

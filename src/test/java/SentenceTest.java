@@ -1,7 +1,9 @@
-/** Each sentence of the document, from "Description" to "Promise 36", with the edges that it names. */
+/** Each sentence of the document, from "What it is" to "Promise 36", with the edges that it names. */
 public final class SentenceTest {
     public static void main(String[] args) {
         Sentences document = new Sentences();
+        new WholeSentences(document).all();
+        new LifeSentences(document).all();
         new FlowSentences(document).all();
         new CountSentences(document).all();
         new BoundSentences(document).all();
